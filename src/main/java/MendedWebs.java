@@ -205,7 +205,9 @@ public final class MendedWebs {
     }
 
     public int laws() {
-        if (!compileTape(false)) {
+        faultPlace = compiler.compile(tape, tapeLength, false);
+        tapeLength = 0;
+        if (faultPlace != NONE) {
             return refuse(BAD_TEXT);
         }
         now.laws.become(compiler.text);
@@ -215,7 +217,9 @@ public final class MendedWebs {
     }
 
     public int lines() {
-        if (!compileTape(true)) {
+        faultPlace = compiler.compile(tape, tapeLength, true);
+        tapeLength = 0;
+        if (faultPlace != NONE) {
             return refuse(BAD_TEXT);
         }
         now.lines.become(compiler.text);
@@ -225,12 +229,6 @@ public final class MendedWebs {
         now.journal.loseLines();
         changed();
         return answer(now.lines.count);
-    }
-
-    private boolean compileTape(boolean ofLines) {
-        faultPlace = compiler.compile(tape, tapeLength, ofLines);
-        tapeLength = 0;
-        return faultPlace == NONE;
     }
 
     public int fault() {
@@ -1174,34 +1172,27 @@ public final class MendedWebs {
                 case NUMBER: push(argument); break;
                 case NODE: push(argument); break;
                 case NOTHING: push(NONE); break;
-                case HEAD: look(argument); break;
-                case NAME: look(FIRST_NAME + argument); break;
-                case NEXT: lookAt(pop(), FIRST_NEXT); break;
-                case BACK: lookAt(pop(), FIRST_BACK); break;
-                case KEY: lookAt(pop(), FIRST_KEY); break;
-                case NOT: push(1 - pop()); break;
+                case HEAD: push(look(argument)); break;
+                case NAME: push(look(FIRST_NAME + argument)); break;
+                case NEXT: push(lookAt(pop(), FIRST_NEXT)); break;
+                case BACK: push(lookAt(pop(), FIRST_BACK)); break;
+                case KEY: push(lookAt(pop(), FIRST_KEY)); break;
                 case LENGTH: follow(argument); push(wayLength); break;
-                case TOTAL: follow(argument); pushTotal(); break;
-                case LIST: follow(argument); pushTruth(wayEnds); break;
-                case TWIN: follow(argument); pushTwin(); break;
-                case RISE: follow(argument); pushRise(); break;
+                case TOTAL: follow(argument); push(totalOfWay()); break;
+                case LIST: follow(argument); push(wayEnds ? 1 : 0); break;
+                case TWIN: follow(argument); push(isWayTwin() ? 1 : 0); break;
+                case RISE: follow(argument); push(isWayRising() ? 1 : 0); break;
                 case FIRST_WAY: follow(argument); push(wayCells); break;
-                case APART: follow(argument); pushTruth((pop() & wayCells) == 0); break;
-                default: join(token);
-            }
-        }
-
-        private void join(int token) {
-            int right = pop();
-            int left = pop();
-            switch (token) {
-                case PLUS: push(left + right); break;
-                case MINUS: push(left - right); break;
-                case LESS: pushTruth(left < right); break;
-                case MORE: pushTruth(left > right); break;
-                case SAME: pushTruth(left == right); break;
-                case AND: push(left & right); break;
-                default: push(left | right);
+                case APART: follow(argument); push((pop() & wayCells) == 0 ? 1 : 0); break;
+                case NOT: push(1 - pop()); break;
+                // Of two operands the right one is popped first.
+                case PLUS: push(pop() + pop()); break;
+                case MINUS: push(-pop() + pop()); break;
+                case LESS: push(pop() > pop() ? 1 : 0); break;
+                case MORE: push(pop() < pop() ? 1 : 0); break;
+                case SAME: push(pop() == pop() ? 1 : 0); break;
+                case AND: push(pop() & pop()); break;
+                default: push(pop() | pop());
             }
         }
 
@@ -1212,10 +1203,6 @@ public final class MendedWebs {
             }
         }
 
-        private void pushTruth(boolean truth) {
-            push(truth ? 1 : 0);
-        }
-
         private int pop() {
             if (top <= 0) {
                 return 0;
@@ -1224,18 +1211,22 @@ public final class MendedWebs {
             return stack[top];
         }
 
-        private void look(int cell) {
+        private int look(int cell) {
+            if (cell < 0 || cell >= CELLS) {
+                return NONE;
+            }
             read |= 1 << cell;
-            push(cell >= 0 && cell < CELLS ? cells[cell] : NONE);
+            return cells[cell];
         }
 
-        private void lookAt(int node, int first) {
-            if (node >= 0) {
-                look(first + PER_NODE * node);
-            } else {
+        private int lookAt(int node, int first) {
+            if (node < 0 || node >= NODES) {
                 amiss = true;
-                push(NONE);
+                return NONE;
             }
+            int cell = first + PER_NODE * node;
+            read |= 1 << cell;
+            return cells[cell];
         }
 
         private void follow(int head) {
@@ -1256,36 +1247,38 @@ public final class MendedWebs {
             read |= 1 << head | wayCells;
         }
 
-        private void pushTotal() {
+        private int totalOfWay() {
             read |= wayCells << 2;
             int total = 0;
             for (int i = 0; i < wayLength; i++) {
                 total += cells[FIRST_KEY + PER_NODE * way[i]];
             }
-            push(total);
+            return total;
         }
 
-        private void pushTwin() {
+        private boolean isWayTwin() {
             read |= wayCells << 1;
-            boolean twin = true;
             int ahead = NONE;
             for (int i = 0; i < wayLength; i++) {
-                twin = twin && cells[FIRST_BACK + PER_NODE * way[i]] == ahead;
+                if (cells[FIRST_BACK + PER_NODE * way[i]] != ahead) {
+                    return false;
+                }
                 ahead = way[i];
             }
-            pushTruth(twin);
+            return true;
         }
 
-        private void pushRise() {
+        private boolean isWayRising() {
             read |= wayCells << 2;
-            boolean rise = true;
             int ahead = 0;
             for (int i = 0; i < wayLength; i++) {
                 int key = cells[FIRST_KEY + PER_NODE * way[i]];
-                rise = rise && key >= ahead;
+                if (key < ahead) {
+                    return false;
+                }
                 ahead = key;
             }
-            pushTruth(rise);
+            return true;
         }
     }
 
@@ -1714,7 +1707,8 @@ public final class MendedWebs {
 
         /** Each pair changes its cell: cells are the same behind two mends just if these pairs are. */
         private int weightyPairs(int row, int weighty) {
-            int pairs = 0;
+            // Begins with 1, as head 0 to nothing is a pair of noughts.
+            int pairs = 1;
             for (int k = 0; k < size; k++) {
                 int pair = pairOf(row, k);
                 if ((weighty >> (pair >> VALUE_BITS) & 1) == 1) {

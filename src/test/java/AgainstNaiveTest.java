@@ -123,7 +123,7 @@ public final class AgainstNaiveTest {
     }
 
     private void one(int three) {
-        int r = random.nextInt(100);
+        int r = random.nextInt(8) == 0 ? 50 : random.nextInt(100);
         int steps = call("all", 0);
         if (r < 6) text(random.nextBoolean(), random.nextInt(3) > 0);
         else if (r < 16) { int c = some(0, 23); call("flip", c, valueFor(c)); }
@@ -154,9 +154,23 @@ public final class AgainstNaiveTest {
         call("feed", 1, 2, 3, 4, 5);
     }
 
+    /** Most runs begin with a web that has something in it, some with prices that make many mends alike. */
+    private void prepare() {
+        if (random.nextInt(4) > 0) {
+            int[] bytes = new int[24];
+            for (int i = 0; i < 24; i++) bytes[i] = random.nextInt(6) == 0 ? 255 : random.nextInt(6);
+            tape(bytes);
+            call("row", 0);
+        }
+        if (random.nextInt(3) == 0) {
+            for (int kind = 0; kind < 5; kind++) call("price", kind, 1 + random.nextInt(2));
+        }
+    }
+
     private boolean go(int most, int three) {
         text(false, true);
         text(true, true);
+        prepare();
         while (calls < most && !failed) one(three);
         if (!failed) everything();
         if (failed) for (String t : told) System.out.println("  " + t);

@@ -757,7 +757,6 @@ public final class NaiveWebs {
         return Math.max(1, p);
     }
 
-    /** Rows of cell, value, cell, value ..; the first element of the answer is the price. */
     private int leastPrice;
     private int leastCount;
     private List<int[]> leastRows;
@@ -805,6 +804,12 @@ public final class NaiveWebs {
             }
             cells[c] = was;
         }
+    }
+
+    /** All rows of LEAST, the first 500: cell, value, cell, value .. */
+    List<int[]> rows(int m) {
+        search(m);
+        return leastRows;
     }
 
     private boolean differ() {

@@ -59,8 +59,8 @@ public final class RandomTexts {
     }
 
     private void line() {
-        int kind = random.nextInt(10);
-        if (kind == 0) {
+        int kind = random.nextInt(12) - 1;
+        if (kind <= 0) {
             add("pay");
             sum(2, true);
         } else {
