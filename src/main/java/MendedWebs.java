@@ -1030,7 +1030,7 @@ public final class MendedWebs {
         private void scan(int[] bytes, int length) {
             scanned = 0;
             int place = 0;
-            while (place < length) {
+            for (int i = 0; i < length && place < length; i++) {
                 int behind = endOfToken(bytes, place, length);
                 if (bytes[place] != ' ') {
                     scanToken(bytes, place, behind);
