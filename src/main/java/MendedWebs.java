@@ -291,21 +291,23 @@ public final class MendedWebs {
     }
 
     public int row(int cell) {
+        int bytes = tapeLength;
+        // Ahead of all refusals: behind a row that was refused the tape is empty, too.
+        tapeLength = 0;
         if (!isCell(cell)) {
             return refuse(BAD_NUMBER);
         }
-        if (tapeLength == 0 || tapeLength > CELLS - cell) {
+        if (bytes == 0 || bytes > CELLS - cell) {
             return refuse(BAD_TEXT);
         }
         int written = 0;
-        for (int i = 0; i < tapeLength; i++) {
+        for (int i = 0; i < bytes; i++) {
             int value = tape[i] == NOTHING_BYTE ? NONE : tape[i];
             if (canBe(cell + i, value)) {
                 now.flipTo(now.counts[STEPS], cell + i, value);
                 written++;
             }
         }
-        tapeLength = 0;
         changed();
         return answer(written);
     }

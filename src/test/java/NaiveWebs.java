@@ -582,17 +582,18 @@ public final class NaiveWebs {
     }
 
     public int row(int cell) {
+        List<Integer> bytes = new ArrayList<>(tape);
+        tape.clear();
         if (cell < 0 || cell > 23) return no(-1);
-        if (tape.isEmpty() || tape.size() > 24 - cell) return no(-6);
+        if (bytes.isEmpty() || bytes.size() > 24 - cell) return no(-6);
         int n = 0;
-        for (int i = 0; i < tape.size(); i++) {
-            int v = tape.get(i) == 255 ? -1 : tape.get(i);
+        for (int i = 0; i < bytes.size(); i++) {
+            int v = bytes.get(i) == 255 ? -1 : bytes.get(i);
             if (fits(cell + i, v)) {
                 flipCell(cell + i, v, x.steps.size());
                 n++;
             }
         }
-        tape.clear();
         return yes(n);
     }
 

@@ -418,11 +418,17 @@ public final class PromisesTest {
         due("13: not refused", x.status(), 0);
         due("13: just to the end", Checks.row(x, 22, 3, 7), 2);
         due("13: beyond the end", Checks.row(x, 23, 3, 7), -6);
+        due("13: the tape is empty behind -6", x.end(1), -1);
         due("13: no such cell", Checks.row(x, 24, 1), -1);
+        due("13: the tape is empty behind -1", x.feed(0, 0, 0, 0, 0), 20);
         due("13: below", Checks.row(x, -1, 1), -1);
+        due("13: the tape is empty behind -1, too", x.end(1), -1);
+        due("13: so the next row has none", x.row(0), -6);
         due("13: -1 ahead of -6", new MendedWebs().row(24), -1);
         int[] many = new int[25];
         due("13: 25 bytes", Checks.row(x, 0, many), -6);
+        due("13: the tape is empty behind 25 bytes", x.end(1), -1);
+        due("13: a refused row writes nothing", x.cell(0, 0), 0);
         MendedWebs y = web("keep name 0 = 9", "");
         y.mend(1, 0);
         Checks.row(y, 3, 1);
