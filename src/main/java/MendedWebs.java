@@ -534,9 +534,12 @@ public final class MendedWebs {
                 continue;
             }
             work.perform(state.lines, line, state.web);
-            if (work.outcome == WAS_AMISS && !state.journal.wasAmiss(later)) {
+            boolean amiss = work.outcome == WAS_AMISS;
+            if (amiss && !state.journal.wasAmiss(later)) {
                 return NONE;
             }
+            // A step done anew is kept as it went now: a later again compares with that.
+            state.journal.noteStep(later, line, amiss);
             if (work.outcome == WAS_WRITTEN) {
                 state.write(later, line, work.cell, work.value, work.marked, work.read);
             }

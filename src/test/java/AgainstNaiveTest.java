@@ -145,6 +145,22 @@ public final class AgainstNaiveTest {
         if (random.nextInt(4) == 0) call("status");
     }
 
+    /** Steps done again and again, so that steps go amiss, well and amiss anew. */
+    private void oneOfAgain() {
+        int r = random.nextInt(100);
+        int steps = call("all", 0);
+        if (r < 2) text(true, true);
+        else if (r < 14) { int c = some(0, 23); call("flip", c, valueFor(c)); }
+        else if (r < 18) call("lots", random.nextBoolean() ? 0 : some(0, 1000), some(0, 1000000));
+        else if (r < 44) call("step", random.nextInt(8) == 0 ? some(1, 64) : some(1, 6));
+        else if (r < 50) call("mend", 1, some(-1, 2));
+        else if (r < 52) call("sure", some(0, 23));
+        else if (r < 80) call("again", random.nextInt(4) == 0 ? some(0, Math.max(1, steps)) : some(Math.max(0, steps - 12), Math.max(1, steps)));
+        else if (r < 83) call("image", some(0, 1));
+        else if (r < 85) call("back", some(0, 1));
+        else query();
+    }
+
     private void rowOfBytes() {
         int n = random.nextInt(8) == 0 ? random.nextInt(30) : 1 + random.nextInt(6);
         int[] bytes = new int[n];
@@ -167,11 +183,14 @@ public final class AgainstNaiveTest {
         }
     }
 
-    private boolean go(int most, int three) {
+    private boolean go(int most, int three, boolean ofAgain) {
         text(false, true);
         text(true, true);
         prepare();
-        while (calls < most && !failed) one(three);
+        while (calls < most && !failed) {
+            if (ofAgain) oneOfAgain();
+            else one(three);
+        }
         if (!failed) everything();
         if (failed) for (String t : told) System.out.println("  " + t);
         return !failed;
@@ -183,8 +202,12 @@ public final class AgainstNaiveTest {
         int runs = args.length > 1 ? Integer.parseInt(args[1]) : 250;
         int three = args.length > 2 ? Integer.parseInt(args[2]) : 4;
         for (long seed = first; seed < first + runs; seed++) {
-            boolean fine = new AgainstNaiveTest(seed).go(330, three);
+            boolean fine = new AgainstNaiveTest(seed).go(330, three, false);
             Checks.due("run " + seed, fine ? 1 : 0, 1);
+            if (fine) {
+                fine = new AgainstNaiveTest(seed).go(330, three, true);
+                Checks.due("run of again " + seed, fine ? 1 : 0, 1);
+            }
             if (!fine) break;
         }
         Checks.close();

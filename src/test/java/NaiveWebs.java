@@ -899,6 +899,7 @@ public final class NaiveWebs {
             if (y.lines.get(line).kind.equals("pay")) continue;
             Done d = perform(y, y.lines.get(line));
             if (d.what.equals("amiss") && !y.steps.get(t).amiss) return no(-3);
+            y.steps.get(t).amiss = d.what.equals("amiss");
             if (d.what.equals("written")) write(y, t, line, d.cell, d.value, d.marked, d.read);
         }
         x = y;

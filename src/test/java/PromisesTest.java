@@ -994,6 +994,8 @@ public final class PromisesTest {
         due("29: one left out once more", x.again(0), 2);
         againTakesBack();
         againRefused();
+        againAmissAnew();
+        againAmissKept();
     }
 
     private static void againTakesBack() {
@@ -1056,6 +1058,54 @@ public final class PromisesTest {
         due("29: a write of step 0 is kept no more", z.again(0), -3);
         due("29: those of step 1 are", z.again(1), 0);
         due("29: then of step 0 they are not", z.again(0), -3);
+    }
+
+    /** Name 1 is 9, 3, 9; with 9 the last line is amiss. */
+    private static MendedWebs amissInStep3(String test) {
+        MendedWebs x = web("", "let name 1 be 9;let name 1 be 3;let name 1 be 9;let name 0 be name 1 + 5" + test);
+        x.step(4);
+        due("29: step 3 is amiss", x.all(2), 1);
+        return x;
+    }
+
+    /** A step that was done anew, and was not amiss then, may not become amiss. */
+    private static void againAmissAnew() {
+        MendedWebs x = amissInStep3("");
+        due("29: not amiss anew", x.again(2), 1);
+        due("29: written anew", x.cell(3, 0), 8);
+        due("29: amiss is counted still", x.all(2), 1);
+        due("29: amiss that was not anew", x.again(1), -3);
+        due("29: status", x.status(), -3);
+        due("29: name 0 stays", x.cell(3, 0), 8);
+        due("29: name 1 stays", x.cell(4, 0), 3);
+        due("29: writes stay", x.all(8), 3);
+        due("29: what is counted stays", x.all(2), 1);
+        due("29: with 3 it goes", x.again(0), 2);
+        due("29: step 1 was not left out", x.cell(3, 0), 8);
+        MendedWebs p = amissInStep3(" if name 1 > 4");
+        due("29: passed anew", p.again(2), 1);
+        due("29: not written", p.cell(3, 0), 0);
+        due("29: amiss that was passed anew", p.again(1), -3);
+        MendedWebs a = web("", "let name 2 be 1;let name 2 be 2;let key(head 0) be 4");
+        a.step(3);
+        due("29: amiss anew as it was", a.again(1), 1);
+        due("29: amiss anew once more", a.again(0), 1);
+    }
+
+    /** A refused again, an image keep whether a step was amiss. */
+    private static void againAmissKept() {
+        MendedWebs x = web("", "let name 1 be 3;let name 1 be 9;let name 0 be name 1 + 5;let name 2 be name 1 - 4");
+        x.step(4);
+        due("29: step 2 would go, step 3 be amiss", x.again(1), -3);
+        due("29: step 2 is amiss still", x.again(0), 3);
+        MendedWebs y = amissInStep3("");
+        y.image(0);
+        due("29: anew", y.again(2), 1);
+        y.image(1);
+        y.back(0);
+        due("29: back it is amiss", y.again(1), 2);
+        y.back(1);
+        due("29: back it is not amiss", y.again(1), -3);
     }
 
     private static void promise30() {
