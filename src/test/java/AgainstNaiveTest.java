@@ -9,8 +9,15 @@ import java.util.Random;
 public final class AgainstNaiveTest {
     private static final Map<String, Method> OURS = methods(MendedWebs.class);
     private static final Map<String, Method> NAIVE = methods(NaiveWebs.class);
+    private static final int[] EDGES = {Integer.MIN_VALUE, Integer.MIN_VALUE + 1, -1001, -1000, -256, -6, -3, -2, -1, 0, 0, 1, 1, 2, 3, 4, 5, 6, 8, 9,
+        10, 11, 12, 13, 22, 23, 24, 25, 31, 32, 33, 63, 64, 65, 99, 100, 101, 199, 200, 201, 254, 255, 256, 380, 381, 399, 400, 401, 499, 500,
+        501, 999, 1000, 1001, 999999, 1000000, 1000001, (1 << 24) - 1, 1 << 24, 1 << 30, Integer.MAX_VALUE - 1, Integer.MAX_VALUE};
     private static final String[] QUERIES = {"holds", "bears", "asked", "cell", "way", "seen", "all", "out", "spread",
         "fault", "status"};
+
+    private static final String[] KINDS = {"of all", "of again", "of edges"};
+    private static final int OF_AGAIN = 1;
+    private static final int OF_EDGES = 2;
 
     private final Random random;
     private final RandomTexts texts;
@@ -161,6 +168,19 @@ public final class AgainstNaiveTest {
         else query();
     }
 
+    /** Any call with any arguments, most of them at some edge. */
+    private void oneOfEdges(int three) {
+        List<String> names = new ArrayList<>(new java.util.TreeSet<>(OURS.keySet()));
+        String name = names.get(random.nextInt(names.size()));
+        int[] args = new int[OURS.get(name).getParameterCount()];
+        for (int i = 0; i < args.length; i++) args[i] = random.nextInt(20) == 0 ? random.nextInt() : EDGES[random.nextInt(EDGES.length)];
+        boolean ofMends = name.equals("least") || name.equals("mends") || name.equals("mend");
+        // The twin tries every mend: by three cells now and then only.
+        if (ofMends && random.nextInt(4) > 0) args[0] = cells(three);
+        if (ofMends && args[0] == 3 && random.nextInt(100) >= three) args[0] = 2;
+        call(name, args);
+    }
+
     private void rowOfBytes() {
         int n = random.nextInt(8) == 0 ? random.nextInt(30) : 1 + random.nextInt(6);
         int[] bytes = new int[n];
@@ -183,12 +203,13 @@ public final class AgainstNaiveTest {
         }
     }
 
-    private boolean go(int most, int three, boolean ofAgain) {
+    private boolean go(int most, int three, int kind) {
         text(false, true);
         text(true, true);
         prepare();
         while (calls < most && !failed) {
-            if (ofAgain) oneOfAgain();
+            if (kind == OF_AGAIN) oneOfAgain();
+            else if (kind == OF_EDGES && random.nextBoolean()) oneOfEdges(three);
             else one(three);
         }
         if (!failed) everything();
@@ -202,11 +223,10 @@ public final class AgainstNaiveTest {
         int runs = args.length > 1 ? Integer.parseInt(args[1]) : 250;
         int three = args.length > 2 ? Integer.parseInt(args[2]) : 4;
         for (long seed = first; seed < first + runs; seed++) {
-            boolean fine = new AgainstNaiveTest(seed).go(330, three, false);
-            Checks.due("run " + seed, fine ? 1 : 0, 1);
-            if (fine) {
-                fine = new AgainstNaiveTest(seed).go(330, three, true);
-                Checks.due("run of again " + seed, fine ? 1 : 0, 1);
+            boolean fine = true;
+            for (int kind = 0; kind < KINDS.length && fine; kind++) {
+                fine = new AgainstNaiveTest(seed).go(330, three, kind);
+                Checks.due("run " + KINDS[kind] + " " + seed, fine ? 1 : 0, 1);
             }
             if (!fine) break;
         }

@@ -2,8 +2,14 @@
 public final class Checks {
     private static int passed = 0;
     private static int failed = 0;
+    private static String sentence = "";
 
     private Checks() { }
+
+    /** What is due from here on is due by this sentence of the document. */
+    public static void says(String words) {
+        sentence = words + ": ";
+    }
 
     public static void due(String what, long got, long want) {
         if (got == want) {
@@ -11,7 +17,7 @@ public final class Checks {
             return;
         }
         failed++;
-        System.out.println(what + " answered " + got + ", due is " + want);
+        System.out.println(sentence + what + " answered " + got + ", due is " + want);
     }
 
     /** Prints the counts in the form that CI reads and ends with 1 if anything failed. */
@@ -55,6 +61,35 @@ public final class Checks {
     public static int row(MendedWebs x, int cell, int... bytes) {
         feed(x, bytes);
         return x.row(cell);
+    }
+
+    public static String times(String what, int n) {
+        StringBuilder b = new StringBuilder();
+        for (int i = 0; i < n; i++) b.append(what);
+        return b.toString();
+    }
+
+    /** A cell becomes marked, by a mend of a law that it breaks; heads and other cells are not as they were then. */
+    public static void mark(MendedWebs x, int cell) {
+        int node = (cell - 6) / 3;
+        if (cell >= 6) x.flip(0, node);
+        if (cell < 3) laws(x, "keep length " + cell + " = " + (x.cell(cell, 0) < 0 ? 1 : 0));
+        else if (cell < 6) laws(x, "keep name " + (cell - 3) + " = " + (9 - x.cell(cell, 0)));
+        else if (cell % 3 == 0) {
+            x.flip(cell, node);
+            laws(x, "list 0");
+        } else if (cell % 3 == 1) {
+            x.flip(cell, node);
+            laws(x, "twin 0");
+        } else {
+            x.flip(cell - 2, -1);
+            laws(x, "keep total 0 = " + (9 - x.cell(cell, 0)));
+        }
+        int which = 0;
+        while (which < 20 && x.mends(1, which, 0, 0) != cell) which++;
+        x.mend(1, which);
+        due("mark of cell " + cell, x.cell(cell, 1), 1);
+        laws(x, "keep 1 = 1");
     }
 
     /** A web with these texts; an empty one is left out. */

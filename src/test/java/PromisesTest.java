@@ -14,9 +14,7 @@ public final class PromisesTest {
     }
 
     private static String times(String what, int n) {
-        StringBuilder b = new StringBuilder();
-        for (int i = 0; i < n; i++) b.append(what);
-        return b.toString();
+        return Checks.times(what, n);
     }
 
     /** NEXT, BACK, KEY of a node. */
