@@ -116,6 +116,21 @@ public final class EdgesBehindTest {
         due("since 3", x.spread(5, 3), 1 << 5);
     }
 
+    private static void spreadLongAgo() {
+        says("V: SPREAD since a STEP: by WRITES kept from that STEP on, however many STEPS ago");
+        MendedWebs x = web("", "let name 1 be name 0 if name 2 = 0;pay 1");
+        x.step(1);
+        x.flip(5, 1);
+        for (int i = 0; i < 8; i++) x.step(64);
+        due("513 steps", x.all(0), 513);
+        due("two writes", x.all(8), 2);
+        due("since 0", x.spread(3, 0), 1 << 3 | 1 << 4);
+        due("of the flipped one since 0", x.spread(5, 0), 1 << 4);
+        due("since 1", x.spread(3, 1), 1 << 3);
+        due("since 512", x.spread(3, 512), 1 << 3);
+        due("since 513", x.spread(3, 513), -1);
+    }
+
     // ---- Terms V: again
 
     private static void againTakesBack() {
@@ -400,6 +415,29 @@ public final class EdgesBehindTest {
         due("price of a recent line's write", recentBehindAgain(), 1);
     }
 
+    private static void againLongAgo() {
+        says("29: WRITES .. are those done anew, of the STEPS that they were of: long ago, too");
+        MendedWebs x = web("keep name 0 = 9", "let name 1 be 1;let name 0 be name 2;pay 1 if 1 = 2" + Checks.times(";pay 1", 9));
+        x.step(12);
+        x.step(1);
+        Checks.lines(x, "pay 1;let name 2 be name 0;pay 1" + Checks.times(";pay 1", 9));
+        x.step(24);
+        due("without step 0: none of its lines are left", x.again(0), 24);
+        due("writes: of steps 14, 26", x.all(8), 2);
+        due("name 2 since 14", x.spread(3, 14), 1 << 3 | 1 << 5);
+        due("name 2 since 15", x.spread(3, 15), 1 << 3 | 1 << 5);
+        due("name 2 since 26", x.spread(3, 26), 1 << 3 | 1 << 5);
+        due("name 2 since 27", x.spread(3, 27), 1 << 3);
+        Checks.laws(x, "keep name 2 = 9");
+        due("not of the latest 8 steps", x.least(1, 0), 2);
+        due("without step 26", x.again(26), 10);
+        due("one write", x.all(8), 1);
+        due("without step 20", x.again(20), 15);
+        due("one write still", x.all(8), 1);
+        due("without step 14", x.again(14), 20);
+        due("none", x.all(8), 0);
+    }
+
     private static int recentBehindAgain() {
         MendedWebs x = web("keep name 0 = 9", "let name 1 be 1;let name 0 be 1;pay 1;pay 1;pay 1;pay 1;pay 1;pay 1;pay 1");
         x.step(9);
@@ -507,6 +545,20 @@ public final class EdgesBehindTest {
         putInAre("one not paid", x, 1, 171 - 9, 0, 9, 0);
         Checks.lines(x, "pay 1 if name 0 = 1");
         putInAre("one paid more", x, 1, 171 - 1, 0, 1, 0);
+        says("V: what was PAID is the same: one by one, in order");
+        MendedWebs y = web("", "pay name 0;pay 1 - name 0");
+        // With name 0 at 1 it is 1, 0: not 0, 1.
+        putInAre("the same ones in another order", y, 2, 171 - 9, 0, 9, 0);
+        Checks.lines(y, "pay name 0;pay 9 - name 0;pay 4");
+        putInAre("as much together", y, 3, 171 - 9, 0, 9, 0);
+        Checks.lines(y, "pay 1 if name 0 = 0;pay 1;pay 1 if name 0 = 3");
+        putInAre("as many of them, by others", y, 3, 171 - 8, 0, 8, 0);
+        says("V: if all LAWS HOLD then: not between");
+        MendedWebs z = web("keep name 1 = 0", "let name 1 be name 0;let name 1 be 0;pay 1");
+        putInAre("name 1 is as name 0 then", z, 1, 171 - 9, 0, 0, 9);
+        putInAre("it was between", z, 2, 171, 0, 0, 0);
+        putInAre("and so behind the third", z, 3, 171, 0, 0, 0);
+        putInAre("and again behind the fourth", z, 4, 171 - 9, 0, 0, 9);
     }
 
     private static void putInHeld() {
@@ -622,6 +674,9 @@ public final class EdgesBehindTest {
         y.back(0);
         due("fault stays", y.fault(), 5);
         due("the tape stays", y.end(40), 40);
+        y.image(1);
+        due("behind image, too: the tape", y.end(40), 40);
+        due("fault", y.fault(), 5);
     }
 
     private static MendedWebs imageOfNew() {
@@ -705,6 +760,7 @@ public final class EdgesBehindTest {
         spreadByFlips();
         spreadSince();
         spreadNone();
+        spreadLongAgo();
         againTakesBack();
         againAllKept();
         againBehindMany();
@@ -717,6 +773,7 @@ public final class EdgesBehindTest {
         againAmiss();
         againEdges();
         againWritesOfSteps();
+        againLongAgo();
         putInEach();
         putInSteps();
         putInFromNow();

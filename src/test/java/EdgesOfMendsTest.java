@@ -471,6 +471,29 @@ public final class EdgesOfMendsTest {
         due("head 2 is not", v.least(3, 2), 1);
     }
 
+    private static void differInEach() {
+        says("IV: DIFFER: a WEIGHTY CELL (told as bits): each of the 24");
+        int all = (1 << 24) - 1;
+        for (int c = 0; c < 24; c++) {
+            int node = (c - 6) / 3;
+            int kind = c < 3 ? 0 : c < 6 ? 1 : 2 + c % 3;
+            MendedWebs x = new MendedWebs();
+            if (kind > 1) x.flip(0, node);
+            if (kind == 2 || kind == 3) x.flip(c, node);
+            // To NOTHING or to a node, as cheap as head 0: so back of that node is the same behind some.
+            if (kind == 3) x.price(0, 2);
+            String[] laws = {"keep length " + c + " = 1", "keep name " + (c - 3) + " > 1", "list 0", "twin 0", "keep total 0 > 1"};
+            Checks.laws(x, laws[kind]);
+            due("cell " + c + ": mends", x.least(1, 1) > 1 ? 1 : 0, 1);
+            x.weighty(1 << c);
+            due("cell " + c + " alone", x.least(1, 2), 1);
+            x.weighty(all);
+            due("cell " + c + " and all others", x.least(1, 2), 1);
+            x.weighty(all - (1 << c) - (kind == 3 ? 1 : 0));
+            due("all but cell " + c, x.least(1, 2), 0);
+        }
+    }
+
     // ---- Promises 21 to 27
 
     private static void priceEdges() {
@@ -708,6 +731,7 @@ public final class EdgesOfMendsTest {
         firstInOrder();
         firstOnesAlone();
         differ();
+        differInEach();
         priceEdges();
         copyEdges();
         weightyEdges();

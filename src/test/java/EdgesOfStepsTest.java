@@ -55,7 +55,9 @@ public final class EdgesOfStepsTest {
     private static void passed() {
         says("III: First its TEST (all of it): is it not so, it is PASSED");
         String[] lines = {"pay 1 if 1 = 2", "pay key(nothing) if 1 = 2", "let next(nothing) be nothing if 2 < 1",
-            "let name 0 be 10 if name 0 > 0", "let name 0 be key(head 0) if not 1 = 1", "let head 0 be next(nothing) if length 0 = 1"};
+            "let name 0 be 10 if name 0 > 0", "let name 0 be key(head 0) if not 1 = 1", "let head 0 be next(nothing) if length 0 = 1",
+            "let next(next(nothing)) be nothing if 1 = 2", "let key(back(head 0)) be 1 if 1 = 2", "let back(next(next(node 0))) be nothing if 1 = 2",
+            "let head 0 be back(next(head 1)) if 1 = 2", "pay key(next(nothing)) if 1 = 2", "let next(head 0) be next(head 0) if 1 = 2"};
         for (String l : lines) {
             MendedWebs x = web("", l);
             x.step(1);
@@ -213,6 +215,38 @@ public final class EdgesOfStepsTest {
         markBy("let name 1 be length 0", 18, 4, 1);
         markBy("let name 1 be total 0 - total 0", 20, 4, 1);
         markBy("let name 1 be 5 if length 0 > 0", 12, 4, 1);
+    }
+
+    /** A line that reads this cell alone, and the cell that it writes. */
+    private static String readerOf(int cell) {
+        String node = "(node " + (cell - 6) / 3 + ")";
+        if (cell < 3) return "let back(node 0) be head " + cell;
+        if (cell < 6) return "let key(node 0) be name " + (cell - 3);
+        if (cell % 3 == 2) return "let name 0 be key" + node;
+        return "let head 0 be " + (cell % 3 == 0 ? "next" : "back") + node;
+    }
+
+    private static int writtenBy(int cell) {
+        return cell < 3 ? 7 : cell < 6 ? 8 : cell % 3 == 2 ? 3 : 0;
+    }
+
+    private static void markedByEach() {
+        says("III: MARKED just if any CELL that was read for it is: each of the 24");
+        for (int c = 0; c < 24; c++) {
+            String line = readerOf(c);
+            for (int marked = 0; marked < 24; marked++) {
+                MendedWebs x = web("", line);
+                Checks.mark(x, marked);
+                x.step(1);
+                due("'" + line + "' with cell " + marked + " marked", x.cell(writtenBy(c), 1), marked == c ? 1 : 0);
+                due("it is written", x.all(1) + x.all(2), 0);
+                due("the mark of cell " + marked + " stays", x.cell(marked, 1), marked == writtenBy(c) ? 0 : 1);
+            }
+            MendedWebs x = web("", line);
+            x.step(1);
+            for (int o = 0; o < 24; o++) due("spread of cell " + o + " by '" + line + "'", x.spread(o, 0),
+                o == c ? 1 << c | 1 << writtenBy(c) : o == writtenBy(c) ? 0 : 1 << o);
+        }
     }
 
     private static void markedByAll() {
@@ -576,6 +610,23 @@ public final class EdgesOfStepsTest {
             y.step(1);
             due("asked in watch " + how, y.all(6), 1);
         }
+        says("III: behind a LINE of it that is not its last one nothing is asked: be it PASSED, AMISS, HELD BACK, too");
+        for (int how = 1; how <= 3; how++) {
+            MendedWebs y = web("keep name 0 = 0", "let name 0 be 0 if 1 = 2;let name 0 be 10;pay name 1;pay 1;let name 0 be 0;let name 0 be 10;pay 1 if 1 = 2");
+            Checks.mark(y, 4);
+            Checks.laws(y, "keep name 0 = 1;keep 1 = 2");
+            y.watch(how);
+            y.routine(0, 4);
+            y.step(4);
+            due("passed, amiss, held, paid in watch " + how, y.all(6), 0);
+            due("they were", y.all(1) * 1000 + y.all(2) * 100 + y.all(4) * 10 + y.all(3), 1111);
+            for (int l = 0; l < 2; l++) due("law " + l + " is not seen in watch " + how, y.seen(l, 1), -1);
+            y.step(1);
+            due("its last one in watch " + how, y.all(6), how == 3 ? 2 : 1);
+            due("late in watch " + how, y.seen(0, 2), 4);
+            y.step(2);
+            due("behind it: amiss, passed in watch " + how, y.all(6), how == 3 ? 6 : how == 2 ? 3 : 1);
+        }
         says("III: A ROUTINE is LINES from one to another (told; none at first)");
         MendedWebs z = web("keep name 0 = 0", "pay 1;pay 2");
         z.watch(3);
@@ -616,6 +667,30 @@ public final class EdgesOfStepsTest {
         due("it held between two steps: behind none", x.seen(0, 0), 5);
         due("seen anew", x.seen(0, 1), 6);
         due("late by one again", x.seen(0, 2), 1);
+    }
+
+    private static void seenTwice() {
+        says("III: One that is not SEEN is SEEN in this STEP: in each WATCH, each time that it is BROKEN anew");
+        for (int how = 1; how <= 3; how++) {
+            MendedWebs x = web("keep name 0 = 0", "let name 0 be 1;let name 0 be 0");
+            x.watch(how);
+            for (int i = 0; i < 4; i++) {
+                x.step(1);
+                due("seen in " + 2 * i + ", watch " + how, x.seen(0, 1), 2 * i);
+                due("since", x.seen(0, 0), 2 * i);
+                x.step(1);
+                due("it holds", x.seen(0, 1), -1);
+                due("late still", x.seen(0, 2), 0);
+            }
+            x.watch(0);
+            x.step(1);
+            x.flip(3, 2);
+            Checks.lines(x, "let name 0 be 3");
+            x.watch(how);
+            x.step(1);
+            due("late, watch " + how, x.seen(0, 2), 1);
+            due("in", x.seen(0, 1), 9);
+        }
     }
 
     private static void brokenSince() {
@@ -738,6 +813,13 @@ public final class EdgesOfStepsTest {
             if (isNumber(c)) continue;
             due("255 for cell " + c, Checks.row(x, c, 255), 1);
             due("it is", x.cell(c, 0), NOTHING);
+        }
+        for (int b = 0; b < 256; b++) {
+            MendedWebs x = new MendedWebs();
+            due("a node of byte " + b, Checks.row(x, 7, b), b <= 5 || b == 255 ? 1 : 0);
+            due("a number of byte " + b, Checks.row(x, 23, b), b <= 9 ? 1 : 0);
+            due("cell 7", x.cell(7, 0), b <= 5 ? b : NOTHING);
+            due("cell 23", x.cell(23, 0), b <= 9 ? b : 0);
         }
         MendedWebs x = new MendedWebs();
         due("those behind one passed by", Checks.row(x, 2, 9, 9, 255, 9), 2);
@@ -936,6 +1018,7 @@ public final class EdgesOfStepsTest {
         nodeAndValueAhead();
         markedByReading();
         markedByAll();
+        markedByEach();
         notMarked();
         amissKeepsMarks();
         heldBack();
@@ -954,6 +1037,7 @@ public final class EdgesOfStepsTest {
         watchWithoutLaws();
         routines();
         seenOnce();
+        seenTwice();
         brokenSince();
         late();
         cellEdges();

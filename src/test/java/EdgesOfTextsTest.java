@@ -464,6 +464,12 @@ public final class EdgesOfTextsTest {
         badLaws("keep (1)", 7);
         badLaws("keep [1 = 1]", 8);
         badLaws("keep 1 = 1 = 1", 11);
+        badLaws("keep 1 = 1 if 1 = 1", 11);
+        badLaws("list 0 if 1 = 1", 7);
+        badLaws("keep 1 + (1) = 2", 9);
+        badLaws("keep 1 = (1)", 9);
+        badLines("pay (1)", 4);
+        badLines("pay 1 + (1)", 8);
         badLaws("keep 1 = not 1 = 1", 9);
         badLaws("keep length(0) = 1", 11);
         badLaws("keep node 0 = 1", 5);
@@ -524,6 +530,39 @@ public final class EdgesOfTextsTest {
 
     private static void keys(MendedWebs x, int... keys) {
         for (int n = 0; n < keys.length; n++) x.flip(8 + 3 * n, keys[n]);
+    }
+
+    private static void testsAndSums() {
+        says("II: TEST: BOTH {\"or\" BOTH}. BOTH: PLAIN {\"and\" PLAIN}. PLAIN: \"not\" PLAIN | \"(\" TEST \")\" | SUM ..");
+        MendedWebs x = new MendedWebs();
+        // Each T is so, each F is not.
+        String[] so = {"T", "not F", "not not T", "not not not F", "T and T", "T or F", "F or T", "F or F or T", "T and T and T",
+            "T or T and F", "F and F or T", "F and T or T", "T or F and F", "T and F or T", "F or T and T", "not F and T", "not F or F",
+            "not T or T", "F or not F", "T and not F", "not (T and F)", "not (F or F)", "(T or F) and T", "T and (F or T)", "((T))",
+            "not (not (T))", "not T and F or T", "not F and not F", "not (T) or T"};
+        String[] notSo = {"F", "not T", "not not F", "T and F", "F and T", "F or F", "T and T and F", "F and T and T", "(T or T) and F",
+            "F and (F or T)", "F and (T or T)", "not F and F", "not T and F", "not T and T", "not T or F", "not (T or F)", "not (T and T)",
+            "F or T and F", "F or F and T", "T and F or F", "not (F) and F", "(not F) and F", "not not F and T", "not F and F or F"};
+        for (String test : so) due("'" + test + "'", holds(x, "keep " + truths(test)), 1);
+        for (String test : notSo) due("'" + test + "'", holds(x, "keep " + truths(test)), 0);
+        says("II: SUM: PART {(\"+\" | \"-\") PART}; SUM (\"<\" | \">\" | \"=\") SUM");
+        String[] sums = {"5 - 3 - 1 = 1", "5 - [3 - 1] = 3", "5 - 3 + 1 = 3", "5 - [3 + 1] = 1", "5 + 3 - 1 = 7", "0 - 1 < 0", "1 - 2 + 1 = 0",
+            "9 = 10 - 1", "1 + 1 > 1", "1 < 1 + 1", "2 > 1", "1 < 2", "99 + 99 = 198", "[[1]] = [1]", "3 - [2 - [1 - 5]] = 0 - 3"};
+        String[] none = {"1 < 1", "1 > 1", "2 < 1", "1 > 2", "1 = 2", "2 = 1", "0 - 1 > 0", "5 - 3 - 1 = 3", "0 < 0 - 1"};
+        for (String test : sums) due("'" + test + "'", holds(x, "keep " + test), 1);
+        for (String test : none) due("'" + test + "'", holds(x, "keep " + test), 0);
+        for (String test : so) due("a line's '" + test + "'", paidIf(truths(test)), 1);
+        for (String test : notSo) due("a line's '" + test + "'", paidIf(truths(test)), 0);
+    }
+
+    private static String truths(String test) {
+        return test.replace("T", "1 = 1").replace("F", "1 = 2");
+    }
+
+    private static int paidIf(String test) {
+        MendedWebs x = Checks.web("", "pay 1 if " + test);
+        x.step(1);
+        return x.all(3);
     }
 
     private static void lengthAndTotal() {
@@ -646,6 +685,29 @@ public final class EdgesOfTextsTest {
         }
     }
 
+    private static void askedOfBroken() {
+        says("II: ASKED are for it: .. of all NODES on the WAY, be it broken or not");
+        int next = 1 << 6 | 1 << 9 | 1 << 12 | 1 << 15 | 1 << 18 | 1 << 21;
+        for (int broken = 0; broken < 6; broken++) {
+            MendedWebs x = chain(NOTHING, 0, 1, 2, 3, 4, 5);
+            keys(x, 3, 3, 3, 3, 3, 3);
+            backs(x, -1, 0, 1, 2, 3, 4);
+            x.flip(8 + 3 * broken, broken == 0 ? 9 : 1);
+            x.flip(7 + 3 * broken, broken);
+            Checks.laws(x, "rise 0;twin 0;apart 0 1;list 0");
+            due("rise, broken at " + broken, x.holds(0), 0);
+            due("all keys", x.asked(0), 1 | next | next << 2);
+            due("twin, broken at " + broken, x.holds(1), 0);
+            due("all backs", x.asked(1), 1 | next | next << 1);
+            x.flip(1, broken);
+            due("apart, broken at " + broken, x.holds(2), 0);
+            due("both ways", x.asked(2), 3 | next);
+            x.flip(21, broken);
+            due("list, broken at " + broken, x.holds(3), 0);
+            due("its way", x.asked(3), 1 | next);
+        }
+    }
+
     private static void askedOfWords() {
         says("II: ASKED are for \"apart\" those of both; for \"keep\" all that its words need, NAMES as such");
         MendedWebs x = chain(NOTHING, 4);
@@ -681,6 +743,16 @@ public final class EdgesOfTextsTest {
         due("all twelve", x.bears(6), 0xfff);
         x.laws();
         due("those before stay", x.bears(6), 0xfff);
+    }
+
+    private static void bearsByWriting() {
+        says("II: A LINE BEARS on a LAW, if it writes: not by what it reads");
+        MendedWebs x = Checks.web("list 1;keep name 1 = 0;rise 1;twin 1;keep length 1 + total 1 + name 1 = 0;apart 1 1",
+            "let name 0 be name 1 if name 1 = 0;let head 0 be head 1 if length 1 = 0;let name 0 be key(next(back(head 1)));let name 2 be total 1;"
+            + "let back(next(head 1)) be next(head 1) if name 1 = key(head 1);let key(back(head 1)) be name 1 + length 1;"
+            + "let next(head 1) be back(head 1) if name 1 = 0");
+        int[] bits = {0, 0, 0, 0, 8, 4 + 16, 1 + 4 + 8 + 16 + 32};
+        for (int l = 0; l < bits.length; l++) due("line " + l, x.bears(l), bits[l]);
     }
 
     private static void payBearsOnNone() {
@@ -887,14 +959,17 @@ public final class EdgesOfTextsTest {
         sixtyTokensOfEachRow();
         faults();
         faultAtTheEnd();
+        testsAndSums();
         lengthAndTotal();
         listLaw();
         twinLaw();
         riseLaw();
         apartLaw();
         askedCells();
+        askedOfBroken();
         askedOfWords();
         bearsOn();
+        bearsByWriting();
         payBearsOnNone();
         feedEdges();
         feedBytes();
