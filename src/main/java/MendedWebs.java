@@ -1167,38 +1167,35 @@ public final class MendedWebs {
             top = 0;
             int[] code = text.code;
             for (int i = from; i < to && i < code.length; i++) {
-                apply(code[i] >> ARGUMENT_BITS, code[i] & ARGUMENT_MASK);
+                int argument = code[i] & ARGUMENT_MASK;
+                switch (code[i] >> ARGUMENT_BITS) {
+                    case NUMBER: push(argument); break;
+                    case NODE: push(argument); break;
+                    case NOTHING: push(NONE); break;
+                    case HEAD: push(look(argument)); break;
+                    case NAME: push(look(FIRST_NAME + argument)); break;
+                    case NEXT: push(lookAt(pop(), FIRST_NEXT)); break;
+                    case BACK: push(lookAt(pop(), FIRST_BACK)); break;
+                    case KEY: push(lookAt(pop(), FIRST_KEY)); break;
+                    case LENGTH: follow(argument); push(wayLength); break;
+                    case TOTAL: follow(argument); push(totalOfWay()); break;
+                    case LIST: follow(argument); push(wayEnds ? 1 : 0); break;
+                    case TWIN: follow(argument); push(isWayTwin() ? 1 : 0); break;
+                    case RISE: follow(argument); push(isWayRising() ? 1 : 0); break;
+                    case FIRST_WAY: follow(argument); push(wayCells); break;
+                    case APART: follow(argument); push((pop() & wayCells) == 0 ? 1 : 0); break;
+                    case NOT: push(1 - pop()); break;
+                    // Of two operands the right one is popped first.
+                    case PLUS: push(pop() + pop()); break;
+                    case MINUS: push(-pop() + pop()); break;
+                    case LESS: push(pop() > pop() ? 1 : 0); break;
+                    case MORE: push(pop() < pop() ? 1 : 0); break;
+                    case SAME: push(pop() == pop() ? 1 : 0); break;
+                    case AND: push(pop() & pop()); break;
+                    default: push(pop() | pop());
+                }
             }
             return pop();
-        }
-
-        private void apply(int token, int argument) {
-            switch (token) {
-                case NUMBER: push(argument); break;
-                case NODE: push(argument); break;
-                case NOTHING: push(NONE); break;
-                case HEAD: push(look(argument)); break;
-                case NAME: push(look(FIRST_NAME + argument)); break;
-                case NEXT: push(lookAt(pop(), FIRST_NEXT)); break;
-                case BACK: push(lookAt(pop(), FIRST_BACK)); break;
-                case KEY: push(lookAt(pop(), FIRST_KEY)); break;
-                case LENGTH: follow(argument); push(wayLength); break;
-                case TOTAL: follow(argument); push(totalOfWay()); break;
-                case LIST: follow(argument); push(wayEnds ? 1 : 0); break;
-                case TWIN: follow(argument); push(isWayTwin() ? 1 : 0); break;
-                case RISE: follow(argument); push(isWayRising() ? 1 : 0); break;
-                case FIRST_WAY: follow(argument); push(wayCells); break;
-                case APART: follow(argument); push((pop() & wayCells) == 0 ? 1 : 0); break;
-                case NOT: push(1 - pop()); break;
-                // Of two operands the right one is popped first.
-                case PLUS: push(pop() + pop()); break;
-                case MINUS: push(-pop() + pop()); break;
-                case LESS: push(pop() > pop() ? 1 : 0); break;
-                case MORE: push(pop() < pop() ? 1 : 0); break;
-                case SAME: push(pop() == pop() ? 1 : 0); break;
-                case AND: push(pop() & pop()); break;
-                default: push(pop() | pop());
-            }
         }
 
         private void push(int value) {

@@ -829,6 +829,7 @@ public final class EdgesOfTextsTest {
         due("taken", Checks.laws(x, "keep 1 = 2"), 1);
         due("not broken till a step", x.seen(0, 0), -1);
         due("not seen till a step", x.seen(0, 1), -1);
+        due("a new law was seen at no time: not late", x.seen(0, 2), -1);
         x.step(1);
         due("broken since this one", x.seen(0, 0), 2);
         due("seen in this one", x.seen(0, 1), 2);
